@@ -23,6 +23,7 @@ public final class PromiseTests {
         promise4Find();
         promise5Member();
         promise5MemberThirteenth();
+        promise5MemberTwelveOfAnyName();
         promise5MemberSpace();
         promise6Track();
         promise7Remove();
@@ -36,6 +37,7 @@ public final class PromiseTests {
         promise12EnqueueWrong();
         promise13Free();
         promise13FreeOneWhoWaits();
+        promise13FreeAllJobs();
         promise13FreeManyNames();
         promise14Compress();
         promise14CompressOverExtents();
@@ -110,6 +112,8 @@ public final class PromiseTests {
         due("2: numbers are not given again", x.make(7, 1, 0), -1);
         due("2: 60 less one", x.space(2), 59);
         due("2: find 60", x.find(60), 60);
+        due("2: the 60th is a set as all", x.extent(60, 0, 0), 59);
+        due("2: and takes members", x.member(60, 1, 1), 1);
     }
 
     private static void promise2FirstFit() {
@@ -242,6 +246,16 @@ public final class PromiseTests {
         due("5: another set has its own", x.member(2, 12, 1), 1);
         due("5: compress", x.compress(1), 1);
         due("5: still twelve", x.member(1, 12, 0), -6);
+    }
+
+    private static void promise5MemberTwelveOfAnyName() {
+        DataSets x = new DataSets(40);
+        x.make(1, 20, 0);
+        for (int name = 88; name < 100; name++) {
+            due("5: member " + name, x.member(1, name, 1), 1);
+        }
+        due("5: a 13th of name 0", x.member(1, 0, 0), -6);
+        due("5: not there", x.track(1, 0), -1);
     }
 
     private static void promise5MemberSpace() {
@@ -578,6 +592,23 @@ public final class PromiseTests {
         due("13: one behind", x.space(5), 1);
         due("13: was 6", x.free(6), 1);
         due("13: now 8", x.free(8), 1);
+    }
+
+    private static void promise13FreeAllJobs() {
+        DataSets x = new DataSets(9);
+        for (int job = 1; job <= 20; job++) {
+            x.enqueue(job, 7, true);
+        }
+        for (int job = 1; job <= 20; job++) {
+            due("13: who wait before " + job, x.space(5), 20 - job);
+            due("13: each in its turn, " + job, x.free(job), 1);
+        }
+        due("13: none left", x.space(4), 0);
+        for (int job = 20; job >= 1; job--) {
+            due("13: asks again, " + job, x.enqueue(job, 7, false), 1);
+        }
+        due("13: the last one", x.free(1), 1);
+        due("13: asks again", x.enqueue(1, 7, false), 1);
     }
 
     private static void promise13FreeManyNames() {
